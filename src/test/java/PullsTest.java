@@ -356,6 +356,12 @@ public final class PullsTest {
     due("17 what is missing", x.knot(0, 1), 4);
     x.up(40, 50);
     due("17 below 0", x.knot(0, 1), -9);
+    x.up(40, 52);
+    due("17 no less than -9", x.knot(0, 1), -9);
+    for (int knot = -9; knot <= 9; knot++) {
+      x.up(40, 41 - knot);
+      due("17 just that one", x.knot(0, 1), knot);
+    }
     x.up(40, 28);
     due("17 all alike", x.knot(0, 1), 0);
     due("17 most", x.knot(0, 20), 0);

@@ -51,6 +51,18 @@ public final class SearchTest {
     due("20 no pulls but so", none.first(20), Check.NONE);
   }
 
+  private static void promise20Alone() {
+    UpOneSide x = withTwo();
+    x.up(5, 4);
+    due("20 asked ahead of all", x.first(0), 1);
+    x.up(4, 5);
+    due("20 asked again", x.first(0), 0);
+    UpOneSide none = new UpOneSide();
+    none.up(3, 50);
+    due("19 never level", none.fewest(0), Check.NONE);
+    due("20 never level", none.first(0), Check.NONE);
+  }
+
   private static void promise20LeastRow() {
     // Behind one pull each: (10,20), (20,10), (11,10); level by the row 1 2 and by 0 3 alone.
     UpOneSide x = Check.told("slip 0;slanting by 15 lean -5;slanting by 15 lean 5;pull by 3;slanting by 0 lean 9");
@@ -132,6 +144,12 @@ public final class SearchTest {
     due("22 free", y.worst(), 12);
     y.undo();
     due("22 caught behind undo", y.worst(), 60);
+    UpOneSide u = new UpOneSide();
+    u.image();
+    u.pull(0);
+    due("21 ahead of undo", u.states(), 16);
+    u.undo();
+    due("21 behind undo to no pulls", u.states(), 1);
     y.rule(2, 9);
     y.rule(3, 60);
     y.up(10, 0);
@@ -187,6 +205,11 @@ public final class SearchTest {
       due("24 beyond", x.costs(of[0], of[1], of[2]), Check.BEYOND);
     }
     due("23 edges", x.mends(0, 20, 60), 0);
+    due("23 never pulled", x.mends(0, 0, 0), 0);
+    due("24 never pulled", x.costs(0, 0, 0), 0);
+    x.up(9, 8);
+    due("23 off and never pulled", x.mends(0, 0, 0), Check.NONE);
+    due("24 off and never pulled", x.costs(0, 0, 0), Check.NONE);
   }
 
   private static void promise25Mended() {
@@ -216,6 +239,8 @@ public final class SearchTest {
     UpOneSide x = new UpOneSide();
     due("26 most", x.sun(0, 60), 0);
     due("26 as it was", x.sun(0, 25), 60);
+    due("26 least", x.sun(0, 0), 25);
+    due("26 from the least", x.sun(0, 25), 0);
     due("26 last", x.sun(23, 20), 0);
     due("26 above", x.sun(0, 61), Check.BEYOND);
     due("26 below", x.sun(0, -1), Check.BEYOND);
@@ -249,6 +274,8 @@ public final class SearchTest {
   private static void promise29Best() {
     UpOneSide x = new UpOneSide();
     due("29 all light", x.best(), 60);
+    x.sun(0, 31);
+    due("29 by the first hour", x.best(), 31);
     x.sun(3, 30);
     due("29 thirty", x.best(), 30);
     x.sun(23, 25);
@@ -271,6 +298,9 @@ public final class SearchTest {
   private static void promise30And31Holds() {
     UpOneSide x = Check.told("pull by 0;slip 0;up 9 9");
     due("30 none", x.where(), 0);
+    UpOneSide y = Check.told("pull;up 1 9");
+    y.does(0);
+    due("30 at one", y.where(), 1);
     x.does(0);
     due("30 one", x.where(), 9);
     x.up(4, 9);
@@ -369,6 +399,17 @@ public final class SearchTest {
     fit("held at 0", x, 50, 50);
     lay(x, 0, -1, -2);
     fit("-2 is no height", x, 0, Check.NONE);
+    x.up(0, 20);
+    lay(x, 0, -1, 15);
+    fit("no slip is 10", x, 0, Check.NONE);
+    lay(x, 0, 9, 16);
+    x.change(0, 1, 9);
+    x.up(0, 10);
+    due("34 asked at once", x.slips(0, 0), 30);
+    x.change(0, 1, 10);
+    due("33 asked at once", x.fits(0, 0), 0);
+    x.change(0, 1, 5);
+    x.up(0, 0);
     due("33 the slip stays", x.ruled(1), 7);
     due("34 the wind stays", x.ruled(2), 3);
     due("33 no pull", x.fits(0, 1), Check.BEYOND);
@@ -438,6 +479,7 @@ public final class SearchTest {
 
   public static void main(String[] args) {
     promise19And20Fewest();
+    promise20Alone();
     promise20LeastRow();
     promise21And22States();
     searchFollowsChanges();

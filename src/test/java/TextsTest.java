@@ -73,6 +73,13 @@ public final class TextsTest {
     due("39 none done", x.count(3), 0);
     due("39 edges", Check.tell(x, "knot 0;slip 0;wind 0;curtain 0;chair 0;sun 0 0;up 0 0"), 7);
     due("39 of edges", x.ruled(0) + x.ruled(1) + x.ruled(2) + x.ruled(3) + x.ruled(5) + x.hour(0, 0) + x.now(0), 0);
+    x.up(5, 6);
+    x.rule(4, 77);
+    due("39 all else", Check.tell(x, "knot 1"), 1);
+    due("39 stays", x.now(0) * 10000 + x.now(1) * 100 + x.ruled(4), 50677);
+    Check.feed(x, "up 0 0     ");
+    x.wipe();
+    due("39 what the tape had ahead", Check.tell(x, "up 0"), -5);
     due("39 a number of many digits", Check.tell(x, "up 000000000000000000060 00000000000000000009"), 1);
     due("39 is that number", x.now(2), 51);
   }
@@ -143,6 +150,15 @@ public final class TextsTest {
     text("even;even;even;even;even;even;even;even;evens", -41);
     text("even;even;even;even;even;even;even;even;up 9", -45);
     text("even;even;even;even;even;even;even;even", 8);
+    text("knot ,5", -6);
+    text("pull by .5", -9);
+    text("mull", -1);
+    text("gnot 3", -1);
+    text("pullz", -1);
+    text("apull", -1);
+    text("za", -1);
+    text("up 4 4" + " ".repeat(114), 1);
+    text("up 4 " + " ".repeat(115), -121);
     UpOneSide x = new UpOneSide();
     Check.tell(x, "pull by 9;knot 3;slip 4;sun 3 9;up 3 4;sun 4 70");
     due("39 no pull with a fault", x.count(1), 0);
@@ -322,6 +338,13 @@ public final class TextsTest {
     due("46 no pull", x.judge(0), Check.STATE);
     fill(x, 0, 8, -1, 0);
     due("46 pull below", x.judge(0), Check.STATE);
+    UpOneSide y = Check.told("pull by 1");
+    y.sheet(0, 8, 0);
+    due("46 none", y.judge(0), 0);
+    y.sheet(0, 8, 40);
+    due("46 forty", y.judge(0), 40);
+    y.sheet(0, 8, 39);
+    due("46 thirty-nine", y.judge(0), 39);
     due("46 nothing is done", x.now(3) + x.count(4), 0);
     due("46 nothing changes", x.now(0) * 100 + x.now(1), 209);
   }
