@@ -144,6 +144,14 @@ public final class SearchTest {
     due("22 free", y.worst(), 12);
     y.undo();
     due("22 caught behind undo", y.worst(), 60);
+    UpOneSide all = Check.told("caught by 30");
+    due("21 ahead of all rules", all.states(), 4);
+    all.mended(1);
+    all.rule(0, 9);
+    all.rule(2, 9);
+    all.rule(3, 0);
+    // (0,30) (0,60)
+    due("21 behind all rules", all.states(), 3);
     UpOneSide u = new UpOneSide();
     u.image();
     u.pull(0);
