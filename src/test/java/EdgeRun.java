@@ -22,7 +22,6 @@ final class EdgeRun {
   private static final Pattern TOLD = Pattern.compile("(told|tape|reads) \"(.*)\"(?: = (.*))?");
   private static final Pattern PAGE = Pattern.compile("page (\\d) (\\d+) :(.*)");
   private static final Pattern TAKES = Pattern.compile("takes (\\w+)(.*) from (\\S+) to (\\S+)");
-  private static final Pattern REFUSES = Pattern.compile("refuses (\\w+) (.*)");
   private static final Pattern TIMES = Pattern.compile("(\\d+) times (.*)");
   private static final Pattern CALL = Pattern.compile("(\\w+)(.*?)(?: = (.*))?");
 
@@ -65,11 +64,6 @@ final class EdgeRun {
     m = TAKES.matcher(line);
     if (m.matches()) {
       takes(m.group(1), m.group(2), (int) number(m.group(3)), (int) number(m.group(4)));
-      return;
-    }
-    m = REFUSES.matcher(line);
-    if (m.matches()) {
-      tryApart(new Call(m.group(1), numbers(m.group(2))), Edge.FINDINGS.indexOf("BEYOND"));
       return;
     }
     m = TIMES.matcher(line);
